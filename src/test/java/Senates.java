@@ -1,0 +1,62 @@
+import java.util.Random;
+
+/** Senates for tests, and short ways to tell them things. */
+final class Senates {
+    private Senates() {
+    }
+
+    /** The tape gets a text; what law() answers. */
+    static int law(CradleVeto x, String text) {
+        for (int i = 0; i < text.length(); i++) x.feed(text.charAt(i));
+        return x.law();
+    }
+
+    /** A shelf gets a row of bytes. */
+    static void bytes(CradleVeto x, int shelf, int... values) {
+        x.row(shelf, 0, values.length);
+        for (int i = 0; i < values.length; i++) x.put(shelf, i, values[i]);
+    }
+
+    static CradleVeto some(Random random, int bills, int senators) {
+        CradleVeto x = new CradleVeto();
+        for (int b = 0; b < bills; b++) {
+            x.bill(10 + random.nextInt(90));
+            x.mend(b, 2, random.nextInt(4));
+            x.mend(b, 3, random.nextInt(100));
+        }
+        for (int s = 0; s < senators; s++) x.senator(random.nextInt(10), random.nextInt(3));
+        x.mend(0, 6, random.nextInt(10));
+        x.mend(0, 7, random.nextInt(10));
+        x.mend(0, 8, random.nextInt(random.nextBoolean() ? 12 : 96));
+        x.mend(0, 9, random.nextInt());
+        int kind = random.nextInt(4);
+        if (kind == 0) Due.is("law", law(x, "f>30?3;f%5+t-w+m*2;r"), 1);
+        if (kind == 1) Due.is("law", law(x, "f*7%13"), 1);
+        if (kind == 2) Due.is("law", law(x, "m=1?12;s<3?0;(f+t*3+w*5+r*2+s)%13"), 1);
+        return x;
+    }
+
+    /** In how many of twelve it would cry with other teeth, wind, hours: told by cross(), all laid back. */
+    static int crying(CradleVeto x, int bs, int teeth, int wind, int since) {
+        int wasTeeth = x.mend(0, 6, teeth);
+        int wasWind = x.mend(0, 7, wind);
+        int wasSince = x.mend(0, 8, since);
+        int crying = x.cross(bs);
+        x.mend(0, 6, wasTeeth);
+        x.mend(0, 7, wasWind);
+        x.mend(0, 8, wasSince);
+        return crying;
+    }
+
+    static int length(CradleVeto x, int bs) {
+        return x.of(bs / 10, 0);
+    }
+
+    static int worth(CradleVeto x, int bs) {
+        return x.of(bs / 10, 3);
+    }
+
+    static int behind(CradleVeto x, int bs, int since) {
+        return Math.min(95, since + length(x, bs));
+    }
+}
