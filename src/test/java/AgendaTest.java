@@ -11,6 +11,7 @@ public final class AgendaTest {
         packs();
         packsByAllWays();
         years();
+        yearsOfEach();
         refusedYears();
         Due.end();
     }
@@ -45,6 +46,10 @@ public final class AgendaTest {
             if (crying > 0) go(j + 1, 0, weight * crying, worthSoFar, j + 1);
             if (crying < 12) go(j + 1, Senates.behind(x, bs, since), weight * (12 - crying), worthSoFar + Senates.worth(x, bs), lastCryBehind);
         }
+    }
+
+    private static long twelves(int times) {
+        return times == 0 ? 1 : 12 * twelves(times - 1);
     }
 
     private static long gcd(long a, long b) {
@@ -199,6 +204,8 @@ public final class AgendaTest {
             best = -1;
             tryAll(x, numbers, new int[count], 0, new boolean[count]);
             int senator = 1;
+            // The worth may be asked ahead of the order.
+            if (i % 2 == 0) Due.is("worth first", x.orderWorth(set, senator, 0), best / gcd(best, twelves(count)));
             for (int k = 0; k < count; k++) Due.is("order", x.order(set, senator, k), order[k]);
             Due.is("no more", x.order(set, senator, count), Due.NOT);
             long all = 1;
@@ -325,6 +332,24 @@ public final class AgendaTest {
             Due.is("years often", x.drawn(seed, 1, 100 * years + births, told), often);
             Due.is("no deed", x.of(0, 9), was);
             Due.is("nothing is led", x.led(0), 0);
+        }
+    }
+
+    /** Each bill by each senator passes: so often does each one. */
+    private static void yearsOfEach() {
+        CradleVeto x = new CradleVeto();
+        for (int b = 0; b < 10; b++) x.bill(10 + b);
+        for (int s = 0; s < 6; s++) x.senator(s, 0);
+        Senates.law(x, "0");
+        for (int s = 0; s < 6; s++) {
+            int[] row = new int[20];
+            for (int b = 0; b < 10; b++) {
+                row[2 * b] = 9 - b;
+                row[2 * b + 1] = s;
+            }
+            Senates.bytes(x, 0, row);
+            for (int b = 0; b < 10; b++) Due.is("often", x.drawn(s, 0, 712, b), 7);
+            Due.is("worth", x.drawn(s, 0, 712, -1), 700);
         }
     }
 

@@ -31,7 +31,8 @@ public final class CauseTest {
                 row[3 * j + 2] = random.nextInt(2);
             }
             Senates.bytes(x, 4, row);
-            for (int what = 0; what < 2; what++) {
+            for (int k = 0; k < 2; k++) {
+                int what = i % 2 == 0 ? k : 1 - k;
                 long all = 0;
                 long most = 0;
                 int likeliest = Due.NOT;
@@ -45,9 +46,11 @@ public final class CauseTest {
                         likeliest = v;
                     }
                 }
+                long common = all == 0 ? 1 : gcd(most, all);
+                // How likely it is may be asked ahead of which it is.
+                if (i % 3 == 0) Due.is("how likely", x.cause(4, what, 0), most / common);
                 Due.is("possible", x.causes(4, 2 * what), set);
                 Due.is("likeliest", x.causes(4, 2 * what + 1), likeliest);
-                long common = all == 0 ? 1 : gcd(most, all);
                 Due.is("how likely", x.cause(4, what, 0), most / common);
                 Due.is("below", x.cause(4, what, 1), all == 0 ? 1 : all / common);
             }
@@ -145,6 +148,15 @@ public final class CauseTest {
         Senates.law(x, "t");
         Due.is("of like ones the least", x.apart(90, 0), 0);
         Due.is("nine", x.apart(90, 1), 9);
+        for (int b = 2; b < 10; b++) x.bill(10 + b % 5);
+        for (int s = 2; s < 6; s++) x.senator(3 + s % 2, 0);
+        x.mend(9, 1, 9);
+        x.mend(5, 4, 9);
+        Senates.law(x, "(s=9)&(r=9)?t;5");
+        Due.is("the very last reading", x.apart(3, 0), 95);
+        Due.is("three", x.apart(3, 1), 3);
+        Due.is("the least teeth", x.apart(1, 1), 1);
+        Due.is("the most teeth", x.apart(98, 1), 1);
     }
 
     private static void apartByAllWays() {

@@ -1,3 +1,4 @@
+import java.util.ArrayList;
 import java.util.Random;
 
 /** Promises 24 to 32: readings, feeds, births in deed, what is led, images, changes undone and done again. */
@@ -13,6 +14,7 @@ public final class DeedTest {
         undone();
         undoneBehindDeeds();
         fortyChanges();
+        changesByChance();
         Due.end();
     }
 
@@ -211,5 +213,44 @@ public final class DeedTest {
         for (int i = 39; i >= 0; i--) Due.is("redo", x.redo(), i);
         Due.is("all", x.of(0, 8), 45);
         Due.is("none", x.redo(), Due.STATE);
+    }
+
+    /** Against lists of changes, of all numbers of some bills and senators. */
+    private static void changesByChance() {
+        Random random = new Random(43);
+        for (int i = 0; i < 60; i++) {
+            CradleVeto x = new CradleVeto();
+            for (int b = 0; b < 4; b++) x.bill(34 + b);
+            for (int s = 0; s < 3; s++) x.senator(s, s);
+            ArrayList<int[]> made = new ArrayList<>();
+            ArrayList<int[]> undone = new ArrayList<>();
+            for (int j = 0; j < 200; j++) {
+                int kind = random.nextInt(i % 2 == 0 ? 10 : 4);
+                if (kind == 0 && random.nextInt(3) > 0) {
+                    Due.is("undo", x.undo(), made.isEmpty() ? Due.STATE : made.size() - 1);
+                    if (made.isEmpty()) continue;
+                    int[] latest = made.remove(made.size() - 1);
+                    undone.add(latest);
+                    Due.is("as it was", x.of(latest[0], latest[1]), latest[2]);
+                } else if (kind == 1) {
+                    Due.is("redo", x.redo(), undone.isEmpty() ? Due.STATE : undone.size() - 1);
+                    if (undone.isEmpty()) continue;
+                    int[] latest = undone.remove(undone.size() - 1);
+                    made.add(latest);
+                    Due.is("as told", x.of(latest[0], latest[1]), latest[3]);
+                } else {
+                    int what = random.nextInt(10);
+                    int number = what < 4 ? random.nextInt(4) : what < 6 ? random.nextInt(3) : 0;
+                    int v = 1 + random.nextInt(2);
+                    int was = x.of(number, what);
+                    Due.is("mend", x.mend(number, what, v), was);
+                    if (was == v) continue;
+                    made.add(new int[] {number, what, was, v});
+                    undone.clear();
+                    if (made.size() > 40) made.remove(0);
+                }
+                Due.is("may be undone", x.count(3), made.size());
+            }
+        }
     }
 }

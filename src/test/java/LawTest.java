@@ -12,6 +12,7 @@ public final class LawTest {
         textsByChance();
         longTexts();
         crossed();
+        crossedByEach();
         readers();
         Due.end();
     }
@@ -328,6 +329,30 @@ public final class LawTest {
         for (int bs : new int[] {-1, 2, 10, 11, -10, Integer.MAX_VALUE, Integer.MIN_VALUE}) {
             Due.is("cross " + bs, x.cross(bs), Due.BAD);
         }
+    }
+
+    /** Ten bills and six senators: each reading has its own numbers. */
+    private static void crossedByEach() {
+        CradleVeto x = new CradleVeto();
+        for (int b = 0; b < 10; b++) {
+            x.bill(10 * (b < 9 ? 9 - b : 5) + b);
+            x.mend(b, 2, b % 4);
+        }
+        for (int s = 0; s < 6; s++) x.senator(9 - s, 0);
+        for (int b = 0; b < 10; b++) {
+            for (int s = 0; s < 6; s++) {
+                Senates.law(x, "s");
+                Due.is("sharp", x.cross(10 * b + s), b);
+                Senates.law(x, "r");
+                Due.is("rumble", x.cross(10 * b + s), 9 - s);
+                Senates.law(x, "m");
+                Due.is("matter", x.cross(10 * b + s), b % 4);
+                Senates.law(x, "f");
+                Due.is("length", x.cross(10 * b + s), b < 9 ? 9 - b : 5);
+            }
+            for (int s = 6; s < 10; s++) Due.is("no senator", x.cross(10 * b + s), Due.BAD);
+        }
+        Due.is("no bill", x.cross(100), Due.BAD);
     }
 
     private static void readers() {
