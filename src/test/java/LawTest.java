@@ -53,30 +53,17 @@ public final class LawTest {
         }
     }
 
-    /** What a text gives at since 8 (with a length of 2: 10), teeth 3, wind 4, rumble 5, sharp 6, matter 2. */
-    private static int given(String text) {
-        CradleVeto x = new CradleVeto();
-        x.bill(26);
-        x.mend(0, 2, 2);
-        x.senator(5, 0);
-        x.mend(0, 6, 3);
-        x.mend(0, 7, 4);
-        x.mend(0, 8, 8);
-        Due.is("text " + text, Senates.law(x, text), 1);
-        return x.cross(0);
-    }
-
     private static void lines() {
-        Due.is("first", given("3;4"), 3);
-        Due.is("not so", given("0?3;4"), 4);
-        Due.is("so", given("7?3;4"), 3);
-        Due.is("so by less than 0", given("-7?3;4"), 3);
-        Due.is("none", given("0?3;f<1?4"), 0);
-        Due.is("the second E may be 0", given("1?0;9"), 0);
-        Due.is("a line without a first E ends it", given("f=9?1;5;f=10?7"), 5);
-        Due.is("held above", given("9999"), 12);
-        Due.is("held below", given("-1"), 0);
-        Due.is("twelve", given("12"), 12);
+        Due.is("first", Senates.given("3;4"), 3);
+        Due.is("not so", Senates.given("0?3;4"), 4);
+        Due.is("so", Senates.given("7?3;4"), 3);
+        Due.is("so by less than 0", Senates.given("-7?3;4"), 3);
+        Due.is("none", Senates.given("0?3;f<1?4"), 0);
+        Due.is("the second E may be 0", Senates.given("1?0;9"), 0);
+        Due.is("a line without a first E ends it", Senates.given("f=9?1;5;f=10?7"), 5);
+        Due.is("held above", Senates.given("9999"), 12);
+        Due.is("held below", Senates.given("-1"), 0);
+        Due.is("twelve", Senates.given("12"), 12);
     }
 
     private static void signs() {
@@ -91,16 +78,12 @@ public final class LawTest {
             1, 12, 6, 6, 8, 1, 4, 9, 0,
             7, 6, 1, 2, 1, 1, 5};
         Due.is("as many", texts.length, due.length);
-        for (int i = 0; i < texts.length; i++) Due.is(texts[i], given(texts[i]), due[i]);
+        for (int i = 0; i < texts.length; i++) Due.is(texts[i], Senates.given(texts[i]), due[i]);
         // 9999 to the fourth wraps to an int; / and % of the least int by -1 do so, too.
         int wrapped = 9999 * 9999 * 9999 * 9999;
-        Due.is("wraps", given("(9999*9999*9999*9999%1000+1000)%13"), (wrapped % 1000 + 1000) % 13);
+        Due.is("wraps", Senates.given("(9999*9999*9999*9999%1000+1000)%13"), (wrapped % 1000 + 1000) % 13);
         String least = "(0-2048*1024*1024)";
-        Due.is("the least int", given("(" + least + "/-1=" + least + ")+4*(" + least + "%-1=0)"), 5);
-    }
-
-    private static int faultOf(String text) {
-        return -100 - Senates.law(new CradleVeto(), text);
+        Due.is("the least int", Senates.given("(" + least + "/-1=" + least + ")+4*(" + least + "%-1=0)"), 5);
     }
 
     private static void faults() {
@@ -113,7 +96,7 @@ public final class LawTest {
             1, 1, 1, 6, 1, 1, 1, 1, 13, 2, 2, 2, 5, 4,
             6, 2};
         Due.is("as many", texts.length, due.length);
-        for (int i = 0; i < texts.length; i++) Due.is("fault of " + texts[i], faultOf(texts[i]), due[i]);
+        for (int i = 0; i < texts.length; i++) Due.is("fault of " + texts[i], Senates.faultOf(texts[i]), due[i]);
         CradleVeto x = new CradleVeto();
         x.bill(10);
         x.senator(0, 0);
@@ -296,20 +279,20 @@ public final class LawTest {
     private static void longTexts() {
         StringBuilder text = new StringBuilder();
         for (int i = 0; i < 59; i++) text.append("1+");
-        Due.is("120 bytes", given(text + "-1"), 12);
+        Due.is("120 bytes", Senates.given(text + "-1"), 12);
         CradleVeto x = new CradleVeto();
         Due.is("120 bytes that end too early", Senates.law(x, text + "1+"), -220);
         StringBuilder many = new StringBuilder();
         for (int i = 0; i < 59; i++) many.append("0;");
-        Due.is("sixty lines", given(many + "5"), 0);
+        Due.is("sixty lines", Senates.given(many + "5"), 0);
         StringBuilder asked = new StringBuilder();
         for (int i = 0; i < 29; i++) asked.append("0?1;");
-        Due.is("thirty lines", given(asked + "1?5"), 5);
+        Due.is("thirty lines", Senates.given(asked + "1?5"), 5);
         StringBuilder deep = new StringBuilder();
         for (int i = 0; i < 6; i++) deep.append("0|1&1<1+1*(");
         deep.append("0|1&0<1+1*9");
         for (int i = 0; i < 6; i++) deep.append(")");
-        Due.is("all levels six deep", given(deep.toString()), 1);
+        Due.is("all levels six deep", Senates.given(deep.toString()), 1);
     }
 
     private static void crossed() {

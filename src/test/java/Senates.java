@@ -11,10 +11,36 @@ final class Senates {
         return x.law();
     }
 
+    /** What a text gives at since 8 (with a length of 2: 10), teeth 3, wind 4, rumble 5, sharp 6, matter 2. */
+    static int given(String text) {
+        CradleVeto x = new CradleVeto();
+        x.bill(26);
+        x.mend(0, 2, 2);
+        x.senator(5, 0);
+        x.mend(0, 6, 3);
+        x.mend(0, 7, 4);
+        x.mend(0, 8, 8);
+        Due.is("text " + text, law(x, text), 1);
+        return x.cross(0);
+    }
+
+    /** Where a text has its fault; -101 for a text that has none. */
+    static int faultOf(String text) {
+        return -100 - law(new CradleVeto(), text);
+    }
+
     /** A shelf gets a row of bytes. */
     static void bytes(CradleVeto x, int shelf, int... values) {
         x.row(shelf, 0, values.length);
         for (int i = 0; i < values.length; i++) x.put(shelf, i, values[i]);
+    }
+
+    /** Bills of length 1, sharp 0, and senators of rumble 0, party 0. */
+    static CradleVeto plain(int bills, int senators) {
+        CradleVeto x = new CradleVeto();
+        for (int b = 0; b < bills; b++) x.bill(10);
+        for (int s = 0; s < senators; s++) x.senator(0, 0);
+        return x;
     }
 
     static CradleVeto some(Random random, int bills, int senators) {
