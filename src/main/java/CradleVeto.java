@@ -62,7 +62,7 @@ public final class CradleVeto {
 
     public int law() {
         int fault = tape.fault();
-        if (fault < 0) house.law.become(tape);
+        if (fault < 0) house.follow(tape);
         tape.clear();
         return fault < 0 ? 1 : -100 - fault;
     }
@@ -376,7 +376,7 @@ public final class CradleVeto {
         private static final int[] LEAST = {1, 0, 0, 0, 0, 0, 0, 0, 0, -2147483648};
         private static final int[] MOST = {9, 9, 3, 99, 9, 2, 9, 9, 95, 2147483647};
 
-        final Law law = new Law();
+        private final Law law = new Law();
         private final int[][] numbers = new int[SEED + 1][MOST_BILLS];
         private int bills;
         private int senators;
@@ -428,6 +428,10 @@ public final class CradleVeto {
         /** A number of the infant. */
         int its(int what) {
             return get(0, what);
+        }
+
+        void follow(Tape tape) {
+            law.become(tape);
         }
 
         boolean isReading(int bs) {

@@ -34,6 +34,7 @@ public final class EdgeAgendaTest {
         orderOfMoreThanFive();
         orderBehindTheLast();
         orderOfLikeOnes();
+        orderFirstAndLastOfAll();
         orderWorthRefused();
         orderWorthOfNone();
         orderWorthLeastAndMost();
@@ -441,6 +442,18 @@ public final class EdgeAgendaTest {
             else worth += x.of(bill, 3);
         }
         return worth;
+    }
+
+    private static void orderFirstAndLastOfAll() {
+        Due.by("14: each once: of all orders of five the first one, and the last one");
+        for (int last = 0; last < 2; last++) {
+            CradleVeto x = Senates.plain(5, 1);
+            // Lengths 1 to 5 pass one behind the other in this order alone.
+            for (int b = 0; b < 5; b++) x.mend(b, 0, last == 0 ? 1 + b : 5 - b);
+            Senates.law(x, "(f=1)|(f=3)|(f=6)|(f=10)|(f=15)?0;12");
+            for (int k = 0; k < 5; k++) Due.is("order(31, 0, " + k + ")", x.order(31, 0, k), last == 0 ? k : 4 - k);
+            fraction("orderWorth(31, 0)", x.orderWorth(31, 0, 0), x.orderWorth(31, 0, 1), 50, 1);
+        }
     }
 
     private static void orderWorthRefused() {

@@ -31,6 +31,7 @@ public final class EdgeDeedTest {
         allNumbersUndone();
         theLatestFirst();
         fortyAtMost();
+        fortyOfAllSorts();
         fortyDoneAgain();
         noOtherBehind();
         whatIsNoChange();
@@ -422,6 +423,25 @@ public final class EdgeDeedTest {
             for (int i = kept - 1; i >= 0; i--) Due.is("undo()", x.undo(), i);
             Due.is("none", x.undo(), Due.STATE);
             Due.is("those ahead stay", x.of(0, 8), made - kept);
+        }
+    }
+
+    private static void fortyOfAllSorts() {
+        Due.by("31, 32: 40 at most are kept: of which number, from what, to what");
+        CradleVeto x = Senates.plain(3, 2);
+        int[] whats = {3, 8, 4, 1, 9};
+        for (int i = 0; i < 47; i++) x.mend(whats[i % 5] == 3 ? i % 3 : 0, whats[i % 5], 1 + i % 8);
+        for (int i = 46; i >= 7; i--) {
+            int number = whats[i % 5] == 3 ? i % 3 : 0;
+            Due.is("as told, " + i, x.of(number, whats[i % 5]), 1 + i % 8);
+            Due.is("undo()", x.undo(), i - 7);
+        }
+        Due.is("none", x.undo(), Due.STATE);
+        int[][] stay = {{0, 3, 1}, {2, 3, 6}, {0, 8, 7}, {0, 4, 3}, {0, 1, 4}, {0, 9, 5}};
+        for (int[] each : stay) Due.is("those ahead stay: of(" + each[0] + ", " + each[1] + ")", x.of(each[0], each[1]), each[2]);
+        for (int i = 7; i < 47; i++) {
+            Due.is("redo()", x.redo(), 46 - i);
+            Due.is("as told again, " + i, x.of(whats[i % 5] == 3 ? i % 3 : 0, whats[i % 5]), 1 + i % 8);
         }
     }
 
