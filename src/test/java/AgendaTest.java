@@ -18,18 +18,18 @@ public final class AgendaTest {
 
     /** Sums over all ways of crying and passing, one after the other. */
     private static final class Ways {
-        final CradleVeto x;
+        final Told told;
         final int[] readings;
         final int n;
         final long[] passing = new long[10];
         final long[] quietFrom = new long[11];
         long worth;
 
-        Ways(CradleVeto x, int[] readings, int n) {
-            this.x = x;
+        Ways(Told told, int[] readings, int n) {
+            this.told = told;
             this.readings = readings;
             this.n = n;
-            go(0, x.of(0, 8), 1, 0, 0);
+            go(0, told.since, 1, 0, 0);
         }
 
         private void go(int j, int since, long weight, int worthSoFar, int lastCryBehind) {
@@ -39,12 +39,12 @@ public final class AgendaTest {
                 return;
             }
             int bs = readings[j];
-            int crying = Senates.crying(x, bs, x.of(0, 6), x.of(0, 7), since);
+            int crying = told.crying(bs, told.teeth, told.wind, since);
             long left = 1;
             for (int i = j + 1; i < n; i++) left *= 12;
             passing[j] += weight * (12 - crying) * left;
             if (crying > 0) go(j + 1, 0, weight * crying, worthSoFar, j + 1);
-            if (crying < 12) go(j + 1, Senates.behind(x, bs, since), weight * (12 - crying), worthSoFar + Senates.worth(x, bs), lastCryBehind);
+            if (crying < 12) go(j + 1, told.behind(bs, since), weight * (12 - crying), worthSoFar + told.worth(bs), lastCryBehind);
         }
     }
 
@@ -78,10 +78,11 @@ public final class AgendaTest {
             }
             int shelf = random.nextInt(6);
             Senates.bytes(x, shelf, row);
+            Told told = new Told(x);
             for (int n = 0; n <= 10; n++) {
                 if (n > size && n != 10) continue;
                 int read = Math.min(n, size);
-                Ways ways = new Ways(x, readings, read);
+                Ways ways = new Ways(told, readings, read);
                 long all = 1;
                 for (int j = 0; j < read; j++) all *= 12;
                 fraction("mean", x.mean(shelf, n, 0), x.mean(shelf, n, 1), ways.worth, all);
@@ -202,7 +203,7 @@ public final class AgendaTest {
                 if ((set >> b & 1) == 1) numbers[at++] = b;
             }
             best = -1;
-            tryAll(x, numbers, new int[count], 0, new boolean[count]);
+            tryAll(new Told(x), numbers, new int[count], 0, new boolean[count]);
             int senator = 1;
             // The worth may be asked ahead of the order.
             if (i % 2 == 0) Due.is("worth first", x.orderWorth(set, senator, 0), best / gcd(best, twelves(count)));
@@ -217,11 +218,11 @@ public final class AgendaTest {
     private static long best;
     private static int[] order;
 
-    private static void tryAll(CradleVeto x, int[] numbers, int[] now, int at, boolean[] used) {
+    private static void tryAll(Told told, int[] numbers, int[] now, int at, boolean[] used) {
         if (at == numbers.length) {
             int[] readings = new int[at];
             for (int i = 0; i < at; i++) readings[i] = 10 * now[i] + 1;
-            long worth = new Ways(x, readings, at).worth;
+            long worth = new Ways(told, readings, at).worth;
             if (worth > best) {
                 best = worth;
                 order = now.clone();
@@ -232,7 +233,7 @@ public final class AgendaTest {
             if (used[i]) continue;
             used[i] = true;
             now[at] = numbers[i];
-            tryAll(x, numbers, now, at + 1, used);
+            tryAll(told, numbers, now, at + 1, used);
             used[i] = false;
         }
     }
@@ -265,6 +266,7 @@ public final class AgendaTest {
             if (i % 2 == 0) {
                 for (int b = 0; b < bills; b++) x.mend(b, 3, 5 * random.nextInt(4));
             }
+            Told told = new Told(x);
             int quarters = random.nextInt(61);
             int most = -1;
             int which = 0;
@@ -273,8 +275,8 @@ public final class AgendaTest {
                 int worth = 0;
                 for (int b = 0; b < bills; b++) {
                     if ((set >> b & 1) == 0) continue;
-                    length += x.of(b, 0);
-                    worth += x.of(b, 3);
+                    length += told.length(10 * b);
+                    worth += told.worth(10 * b);
                 }
                 if (length > quarters || worth < most) continue;
                 if (worth == most && Integer.bitCount(set) > Integer.bitCount(which)) continue;
@@ -302,14 +304,15 @@ public final class AgendaTest {
             int seed = random.nextInt();
             int years = 1 + random.nextInt(30);
             int births = random.nextInt(13);
-            int told = random.nextInt(bills);
+            int bill = random.nextInt(bills);
+            Told told = new Told(x);
             int z = seed;
             int worth = 0;
             int often = 0;
             for (int year = 0; year < years; year++) {
-                int teeth = x.of(0, 6);
-                int wind = x.of(0, 7);
-                int since = x.of(0, 8);
+                int teeth = told.teeth;
+                int wind = told.wind;
+                int since = told.since;
                 for (int j = 0; j < size; j++) {
                     z = z * 1103515245 + 12345;
                     if ((z >>> 16) % 12 < births) {
@@ -318,18 +321,18 @@ public final class AgendaTest {
                         since = 0;
                     }
                     int bs = 10 * row[2 * j] + row[2 * j + 1];
-                    if ((z >>> 8) % 12 < Senates.crying(x, bs, teeth, wind, since)) {
+                    if ((z >>> 8) % 12 < told.crying(bs, teeth, wind, since)) {
                         since = 0;
                         continue;
                     }
-                    since = Senates.behind(x, bs, since);
-                    worth += Senates.worth(x, bs);
-                    if (bs / 10 == told) often++;
+                    since = told.behind(bs, since);
+                    worth += told.worth(bs);
+                    if (bs / 10 == bill) often++;
                 }
             }
             int was = x.of(0, 9);
             Due.is("years worth", x.drawn(seed, 1, 100 * years + births, -1), worth);
-            Due.is("years often", x.drawn(seed, 1, 100 * years + births, told), often);
+            Due.is("years often", x.drawn(seed, 1, 100 * years + births, bill), often);
             Due.is("no deed", x.of(0, 9), was);
             Due.is("nothing is led", x.led(0), 0);
         }

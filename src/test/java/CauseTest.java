@@ -31,6 +31,7 @@ public final class CauseTest {
                 row[3 * j + 2] = random.nextInt(2);
             }
             Senates.bytes(x, 4, row);
+            Told told = new Told(x);
             for (int k = 0; k < 2; k++) {
                 int what = i % 2 == 0 ? k : 1 - k;
                 long all = 0;
@@ -38,7 +39,7 @@ public final class CauseTest {
                 int likeliest = Due.NOT;
                 int set = 0;
                 for (int v = 0; v < 10; v++) {
-                    long weight = weight(x, row, what == 0 ? v : x.of(0, 6), what == 1 ? v : x.of(0, 7));
+                    long weight = weight(told, row, what == 0 ? v : told.teeth, what == 1 ? v : told.wind);
                     all += weight;
                     if (weight > 0) set += 1 << v;
                     if (weight > most) {
@@ -57,14 +58,14 @@ public final class CauseTest {
         }
     }
 
-    private static long weight(CradleVeto x, int[] row, int teeth, int wind) {
+    private static long weight(Told told, int[] row, int teeth, int wind) {
         long weight = 1;
-        int since = x.of(0, 8);
+        int since = told.since;
         for (int j = 0; j < Math.min(8, row.length / 3); j++) {
             int bs = 10 * row[3 * j] + row[3 * j + 1];
-            int crying = Senates.crying(x, bs, teeth, wind, since);
+            int crying = told.crying(bs, teeth, wind, since);
             weight *= row[3 * j + 2] == 1 ? crying : 12 - crying;
-            since = row[3 * j + 2] == 1 ? 0 : Senates.behind(x, bs, since);
+            since = row[3 * j + 2] == 1 ? 0 : told.behind(bs, since);
         }
         return weight;
     }
@@ -167,12 +168,13 @@ public final class CauseTest {
             CradleVeto x = Senates.some(random, bills, senators);
             int a = random.nextInt(10);
             int b = (a + 1 + random.nextInt(9)) % 10;
+            Told told = new Told(x);
             int most = 0;
             int which = Due.NOT;
             for (int bill = bills - 1; bill >= 0; bill--) {
                 for (int s = senators - 1; s >= 0; s--) {
                     int bs = 10 * bill + s;
-                    int differ = Senates.crying(x, bs, a, x.of(0, 7), x.of(0, 8)) - Senates.crying(x, bs, b, x.of(0, 7), x.of(0, 8));
+                    int differ = told.crying(bs, a, told.wind, told.since) - told.crying(bs, b, told.wind, told.since);
                     if (differ == 0 || Math.abs(differ) < most) continue;
                     most = Math.abs(differ);
                     which = bs;
@@ -216,12 +218,12 @@ public final class CauseTest {
         Due.is("nothing is done", x.of(0, 7), 5);
     }
 
-    private static int played(CradleVeto x, int bs, int wind, int turn, int n) {
-        if (turn == n) return Senates.crying(x, bs, x.of(0, 6), wind, x.of(0, 8));
-        int most = Math.max(played(x, bs, Math.min(9, wind + 2), turn + 1, n),
-                Math.max(played(x, bs, Math.max(0, wind - 2), turn + 1, n), played(x, bs, wind, turn + 1, n)));
-        int least = Math.min(played(x, bs, Math.min(9, wind + 2), turn + 1, n),
-                Math.min(played(x, bs, Math.max(0, wind - 2), turn + 1, n), played(x, bs, wind, turn + 1, n)));
+    private static int played(Told told, int bs, int wind, int turn, int n) {
+        if (turn == n) return told.crying(bs, told.teeth, wind, told.since);
+        int most = Math.max(played(told, bs, Math.min(9, wind + 2), turn + 1, n),
+                Math.max(played(told, bs, Math.max(0, wind - 2), turn + 1, n), played(told, bs, wind, turn + 1, n)));
+        int least = Math.min(played(told, bs, Math.min(9, wind + 2), turn + 1, n),
+                Math.min(played(told, bs, Math.max(0, wind - 2), turn + 1, n), played(told, bs, wind, turn + 1, n)));
         return turn % 2 == 0 ? least : most;
     }
 
@@ -234,13 +236,14 @@ public final class CauseTest {
             x.senator(random.nextInt(10), 0);
             x.mend(0, 7, random.nextInt(10));
             Senates.law(x, laws[i % laws.length]);
-            int n = 1 + random.nextInt(i % 16 == 0 ? 5 : 3);
-            int due = played(x, 0, x.of(0, 7), 0, n);
+            int n = 1 + random.nextInt(5);
+            Told told = new Told(x);
+            int due = played(told, 0, told.wind, 0, n);
             Due.is("that", x.byTurns(0, n, 0), due);
-            int wind = x.of(0, 7);
+            int wind = told.wind;
             int first = 1;
-            if (played(x, 0, Math.min(9, wind + 2), 1, n) == due) first = 0;
-            if (played(x, 0, wind, 1, n) == due) first = 2;
+            if (played(told, 0, Math.min(9, wind + 2), 1, n) == due) first = 0;
+            if (played(told, 0, wind, 1, n) == due) first = 2;
             Due.is("first", x.byTurns(0, n, 1), first);
         }
     }

@@ -26,15 +26,16 @@ public final class DeedTest {
             CradleVeto x = Senates.some(random, bills, senators);
             int[] due = new int[6];
             int changes = x.count(3);
+            Told told = new Told(x);
             for (int j = 0; j < 20; j++) {
                 int bs = 10 * random.nextInt(bills) + random.nextInt(senators);
                 int z = x.of(0, 9) * 1103515245 + 12345;
                 boolean cries = (z >>> 8) % 12 < x.cross(bs);
-                int since = cries ? 0 : Senates.behind(x, bs, x.of(0, 8));
+                int since = cries ? 0 : told.behind(bs, x.of(0, 8));
                 due[0]++;
                 due[cries ? 1 : 2]++;
                 if (cries) due[4]++;
-                else due[3] += Senates.worth(x, bs);
+                else due[3] += told.worth(bs);
                 Due.is("read", x.read(bs), cries ? 0 : 1);
                 Due.is("seed", x.of(0, 9), z);
                 Due.is("since", x.of(0, 8), since);
@@ -224,7 +225,7 @@ public final class DeedTest {
             for (int s = 0; s < 3; s++) x.senator(s, s);
             ArrayList<int[]> made = new ArrayList<>();
             ArrayList<int[]> undone = new ArrayList<>();
-            for (int j = 0; j < 200; j++) {
+            for (int j = 0; j < 160; j++) {
                 int kind = random.nextInt(i % 2 == 0 ? 10 : 4);
                 if (kind == 0 && random.nextInt(3) > 0) {
                     Due.is("undo", x.undo(), made.isEmpty() ? Due.STATE : made.size() - 1);

@@ -405,31 +405,30 @@ public final class EdgeAgendaTest {
         Senates.law(x, "s=9?12;0");
         x.mend(0, 1, 9);
         for (int k = 0; k < 4; k++) Due.is("any order is like", x.order(15, 0, k), k);
-        // Bill 2 is read first of all, or what stands where nine quarters are over is out.
+        // Bill 2 is nine quarters long: ahead of the others it passes, behind them it cries.
         x.mend(2, 0, 9);
         x.mend(2, 3, 11);
         Senates.law(x, "f>9?12;0");
-        fraction("orderWorth", x.orderWorth(15, 0, 0), x.orderWorth(15, 0, 1), best(x), 1);
-        for (int k = 0; k < 4; k++) Due.is("the first by numbers", x.order(15, 0, k), firstBest(x, k));
+        int best = bestOrder(new int[] {1, 1, 9, 1}, new int[] {10, 10, 11, 10});
+        Due.is("the first by numbers", x.order(15, 0, 0), best >> 6 & 3);
+        Due.is("then", x.order(15, 0, 1), best >> 4 & 3);
+        Due.is("then", x.order(15, 0, 2), best >> 2 & 3);
+        Due.is("the last", x.order(15, 0, 3), best & 3);
+        fraction("orderWorth", x.orderWorth(15, 0, 0), x.orderWorth(15, 0, 1), best >> 8, 1);
     }
 
-    /** Most worth that passes of the four bills, at a law by which all is sure: it cries with since above 9. */
-    private static int best(CradleVeto x) {
-        int most = -1;
-        for (int order = 0; order < 256; order++) most = Math.max(most, sureWorth(x, order));
-        return most;
-    }
-
-    private static int firstBest(CradleVeto x, int k) {
-        int most = best(x);
+    /** Of four bills: the worth by 256, and two bits a bill of the order, the first one above; it cries above nine quarters. */
+    private static int bestOrder(int[] lengths, int[] worths) {
+        int best = -1;
         for (int order = 0; order < 256; order++) {
-            if (sureWorth(x, order) == most) return order >> 2 * (3 - k) & 3;
+            int worth = sureWorth(order, lengths, worths);
+            if (best < 0 || worth > best >> 8) best = worth < 0 ? best : worth << 8 | order;
         }
-        return Due.BAD;
+        return best;
     }
 
-    /** Two bits a bill, the first one above; -1 if one is there twice. */
-    private static int sureWorth(CradleVeto x, int order) {
+    /** -1 if a bill is there twice. */
+    private static int sureWorth(int order, int[] lengths, int[] worths) {
         int since = 0;
         int worth = 0;
         int seen = 0;
@@ -437,9 +436,9 @@ public final class EdgeAgendaTest {
             int bill = order >> 2 * (3 - k) & 3;
             if ((seen >> bill & 1) == 1) return -1;
             seen |= 1 << bill;
-            since = Math.min(95, since + x.of(bill, 0));
+            since += lengths[bill];
             if (since > 9) since = 0;
-            else worth += x.of(bill, 3);
+            else worth += worths[bill];
         }
         return worth;
     }

@@ -316,26 +316,23 @@ public final class LawTest {
 
     /** Ten bills and six senators: each reading has its own numbers. */
     private static void crossedByEach() {
-        CradleVeto x = new CradleVeto();
-        for (int b = 0; b < 10; b++) {
-            x.bill(10 * (b < 9 ? 9 - b : 5) + b);
-            x.mend(b, 2, b % 4);
-        }
-        for (int s = 0; s < 6; s++) x.senator(9 - s, 0);
-        for (int b = 0; b < 10; b++) {
-            for (int s = 0; s < 6; s++) {
-                Senates.law(x, "s");
-                Due.is("sharp", x.cross(10 * b + s), b);
-                Senates.law(x, "r");
-                Due.is("rumble", x.cross(10 * b + s), 9 - s);
-                Senates.law(x, "m");
-                Due.is("matter", x.cross(10 * b + s), b % 4);
-                Senates.law(x, "f");
-                Due.is("length", x.cross(10 * b + s), b < 9 ? 9 - b : 5);
+        for (int law = 0; law < 4; law++) {
+            CradleVeto x = new CradleVeto();
+            for (int b = 0; b < 10; b++) {
+                x.bill(10 * (b < 9 ? 9 - b : 5) + b);
+                x.mend(b, 2, b % 4);
             }
-            for (int s = 6; s < 10; s++) Due.is("no senator", x.cross(10 * b + s), Due.BAD);
+            for (int s = 0; s < 6; s++) x.senator(9 - s, 0);
+            Senates.law(x, "srmf".substring(law, law + 1));
+            for (int b = 0; b < 10; b++) {
+                for (int s = 0; s < 6; s++) {
+                    int[] due = {b, 9 - s, b % 4, b < 9 ? 9 - b : 5};
+                    Due.is("law " + law, x.cross(10 * b + s), due[law]);
+                }
+                for (int s = 6; s < 10; s++) Due.is("no senator", x.cross(10 * b + s), Due.BAD);
+            }
+            Due.is("no bill", x.cross(100), Due.BAD);
         }
-        Due.is("no bill", x.cross(100), Due.BAD);
     }
 
     private static void readers() {

@@ -1,14 +1,25 @@
+import java.util.Map;
 import java.util.Random;
+import java.util.WeakHashMap;
 
 /** Senates for tests, and short ways to tell them things. */
 final class Senates {
+    private static final Map<CradleVeto, String> LAWS = new WeakHashMap<>();
+
     private Senates() {
     }
 
     /** The tape gets a text; what law() answers. */
     static int law(CradleVeto x, String text) {
         for (int i = 0; i < text.length(); i++) x.feed(text.charAt(i));
-        return x.law();
+        int answer = x.law();
+        if (answer == 1) LAWS.put(x, text);
+        return answer;
+    }
+
+    /** The text of a senate's law; an empty one, if none was told by law(..). */
+    static String lawOf(CradleVeto x) {
+        return LAWS.getOrDefault(x, "");
     }
 
     /** What a text gives at since 8 (with a length of 2: 10), teeth 3, wind 4, rumble 5, sharp 6, matter 2. */
@@ -60,29 +71,5 @@ final class Senates {
         if (kind == 1) Due.is("law", law(x, "f*7%13"), 1);
         if (kind == 2) Due.is("law", law(x, "m=1?12;s<3?0;(f+t*3+w*5+r*2+s)%13"), 1);
         return x;
-    }
-
-    /** In how many of twelve it would cry with other teeth, wind, hours: told by cross(), all laid back. */
-    static int crying(CradleVeto x, int bs, int teeth, int wind, int since) {
-        int wasTeeth = x.mend(0, 6, teeth);
-        int wasWind = x.mend(0, 7, wind);
-        int wasSince = x.mend(0, 8, since);
-        int crying = x.cross(bs);
-        x.mend(0, 6, wasTeeth);
-        x.mend(0, 7, wasWind);
-        x.mend(0, 8, wasSince);
-        return crying;
-    }
-
-    static int length(CradleVeto x, int bs) {
-        return x.of(bs / 10, 0);
-    }
-
-    static int worth(CradleVeto x, int bs) {
-        return x.of(bs / 10, 3);
-    }
-
-    static int behind(CradleVeto x, int bs, int since) {
-        return Math.min(95, since + length(x, bs));
     }
 }

@@ -5,6 +5,8 @@ public final class WildTest {
     private static final int CALLS = 512;
     private static final int[] FAR = {-1, Integer.MAX_VALUE, Integer.MIN_VALUE, Integer.MAX_VALUE - 1, -2, 61, 96, 128, 3012};
     private static final String SIGNS = "ftwrsm0123456789()(!-+*/%|&<=>?;";
+    private static final String LONG_TEXT = "t>w?f/0+s;r*9999*9999*9999-m";
+    private static int made;
 
     public static void main(String[] args) {
         for (int seed = 0; seed < 400; seed++) {
@@ -22,7 +24,10 @@ public final class WildTest {
         Random random = new Random(seed);
         CradleVeto x = new CradleVeto();
         long sum = 0;
-        for (int i = 0; i < CALLS; i++) {
+        made = 0;
+        // No run goes beyond its calls, if the longest text comes last.
+        for (int i = 0; made < CALLS - LONG_TEXT.length(); i++) {
+            made++;
             int call = i < 40 ? random.nextInt(6) : random.nextInt(42);
             long answer;
             try {
@@ -89,6 +94,8 @@ public final class WildTest {
     private static long fedAndWritten(CradleVeto x, Random random) {
         int kind = random.nextInt(3);
         if (kind == 0) return x.law();
-        return Senates.law(x, kind == 1 ? "f%13" : "t>w?f/0+s;r*9999*9999*9999-m");
+        String text = kind == 1 ? "f%13" : LONG_TEXT;
+        made += text.length();
+        return Senates.law(x, text);
     }
 }
