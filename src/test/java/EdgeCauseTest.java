@@ -39,6 +39,9 @@ public final class EdgeCauseTest {
         turnsWithinZeroAndNine();
         turnsOfLikeOnes();
         turnsOneToFive();
+        turnsReadTheTold();
+        turnsAtNinetyFive();
+        turnsWithoutAText();
         yearsRefused();
         yearsOfNoRowOfBytes();
         yearsOneToThirty();
@@ -470,6 +473,61 @@ public final class EdgeCauseTest {
         CradleVeto far = windy(9, "w=9?9;w=0?0;5");
         Due.is("n 1", far.byTurns(0, 1, 0), 5);
         Due.is("n 2", far.byTurns(0, 2, 0), 9);
+    }
+
+    private static void turnsReadTheTold() {
+        Due.by("22: behind them a told BILL is read by a told SENATOR (others as they are)");
+        CradleVeto x = new CradleVeto();
+        x.bill(12);
+        x.bill(47);
+        x.mend(1, 2, 3);
+        x.senator(1, 0);
+        x.senator(6, 1);
+        x.mend(0, 6, 5);
+        x.mend(0, 7, 9);
+        x.mend(0, 8, 4);
+        String[] names = {"f", "t", "r", "s", "m"};
+        int[][] due = {{5, 5, 1, 2, 0}, {5, 5, 6, 2, 0}, {8, 5, 1, 7, 3}, {8, 5, 6, 7, 3}};
+        for (int i = 0; i < names.length; i++) {
+            Senates.law(x, names[i]);
+            for (int reading = 0; reading < 4; reading++) {
+                int bs = 10 * (reading / 2) + reading % 2;
+                Due.is(names[i] + " at " + bs, x.byTurns(bs, 1 + i, 0), due[reading][i]);
+                Due.is(names[i] + " at " + bs + ", first", x.byTurns(bs, 1 + i, 1), 2);
+            }
+        }
+        Senates.law(x, "w-t+m");
+        Due.is("WIND with others, one turn", x.byTurns(11, 1, 0), 5);
+        Due.is("WIND with others, two turns", x.byTurns(11, 2, 0), 7);
+        Due.is("TEETH, WIND, SINCE are as they were", 100 * x.of(0, 6) + 10 * x.of(0, 7) + x.of(0, 8), 594);
+    }
+
+    private static void turnsAtNinetyFive() {
+        Due.by("22: SINCE is more by LENGTH, 95 stays");
+        CradleVeto x = new CradleVeto();
+        x.bill(90);
+        x.senator(0, 0);
+        Senates.law(x, "f-85");
+        int[] since = {76, 77, 85, 86, 87, 95};
+        int[] due = {0, 1, 9, 10, 10, 10};
+        for (int i = 0; i < since.length; i++) {
+            x.mend(0, 8, since[i]);
+            for (int n = 1; n <= 5; n++) Due.is("SINCE " + since[i] + ", n " + n, x.byTurns(0, n, 0), due[i]);
+        }
+    }
+
+    private static void turnsWithoutAText() {
+        Due.by("22: without a text: f by 4, t by 3, w by 3, r by 3, s by 3, together, less 2");
+        CradleVeto x = new CradleVeto();
+        x.bill(49);
+        x.senator(7, 0);
+        x.mend(0, 6, 8);
+        x.mend(0, 7, 5);
+        x.mend(0, 8, 1);
+        Due.is("one turn: WIND 3", x.byTurns(0, 1, 0), 1 + 2 + 1 + 2 + 3 - 2);
+        Due.is("less, or letting be: letting be", x.byTurns(0, 1, 1), 2);
+        Due.is("two turns: WIND 3, then 5", x.byTurns(0, 2, 0), 1 + 2 + 1 + 2 + 3 - 2);
+        Due.is("less alone", x.byTurns(0, 2, 1), 1);
     }
 
     // ---- promise 23

@@ -22,6 +22,7 @@ public final class EdgeLawTest {
         noBlanks();
         sixOpen();
         openAtOnce();
+        sixOpenInEachE();
         textsThatEndTooEarly();
         textsAsLongAsTheTape();
         intsThatWrap();
@@ -219,6 +220,21 @@ public final class EdgeLawTest {
         Due.is("five open behind a closed one", Senates.faultOf("((((((1)+(2))))))"), -101);
         Due.is("six open behind an O", Senates.faultOf("((((((1+(2)))))))"), 8);
         Due.is("- between two is none ahead of an O", Senates.faultOf("((((((1-2-3))))))"), -101);
+    }
+
+    private static void sixOpenInEachE() {
+        Due.by("at most 6 are open at once: in each E, of each LINE, behind each sign");
+        String[] ahead = {"1?", "0;", "0?1;", "0?1;2?", "((((((1))))))?", "------1?", "!!!!!!1;", "1|", "1&", "1<", "1=",
+            "1>", "1+", "1-", "1*", "1/", "1%"};
+        for (String text : ahead) {
+            for (String sign : new String[] {"(", "!", "-"}) {
+                String six = sign + sign + sign + sign + sign + sign;
+                String closed = sign.equals("(") ? "))))))" : "";
+                Due.is(text + six + ", six", Senates.faultOf(text + six + "1" + closed), -101);
+                Due.is(text + six + ", seven", Senates.faultOf(text + six + sign + "1"), text.length() + 6);
+                Due.is(text + six + ", too early", Senates.faultOf(text + six), text.length() + 6);
+            }
+        }
     }
 
     private static void textsThatEndTooEarly() {
