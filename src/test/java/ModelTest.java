@@ -72,6 +72,9 @@ public final class ModelTest {
             else if (sort == 1) row(2, random.nextInt(25), model.count(0), model.count(1));
             else if (sort == 2) row(3, random.nextInt(27), model.count(0), model.count(1), 2);
             else if (sort == 3) newBills();
+            else if (sort == 4) shifted();
+            else if (sort == 5 && run % 8 == 3) manyChanges();
+            else if (sort == 5 && run % 8 == 5) manyBodies();
             else any(FACE[random.nextInt(FACE.length)].split(" "));
         }
     }
@@ -116,6 +119,40 @@ public final class ModelTest {
         ask("bills", shelf, random.nextInt(4), 1 + random.nextInt(10));
     }
 
+    /** Two rows of one sort, or one alone: what has come where. */
+    private void shifted() throws ReflectiveOperationException {
+        int from = random.nextInt(6);
+        int to = random.nextInt(3) == 0 ? from : random.nextInt(6);
+        int sort = random.nextInt(5);
+        int n = random.nextInt(14);
+        for (int shelf : new int[] {from, to}) {
+            ask("row", shelf, sort, n);
+            for (int i = 0; i < n; i++) ask("put", shelf, i, random.nextInt(4) == 0 ? 0 : made("long"));
+        }
+        ask("shift", from, within(0, n / 2), to, within(0, n / 2), within(0, n - n / 2));
+        for (int i = 0; i < n; i++) ask("element", to, i);
+        for (int i = 0; i < n; i++) ask("element", from, i);
+    }
+
+    /** More changes than are kept, all of them undone, and all done again, each number asked. */
+    private void manyChanges() throws ReflectiveOperationException {
+        for (int i = random.nextInt(60); i > 0; i--) number("mend");
+        for (String call : new String[] {"undo", "redo"}) {
+            for (int i = random.nextInt(45); i > 0; i--) {
+                ask(call);
+                number("of");
+            }
+        }
+        ask("count", 3);
+        for (int what = 6; what < 10; what++) ask("of", 0, what);
+    }
+
+    private void manyBodies() throws ReflectiveOperationException {
+        for (int i = random.nextInt(60); i > 0; i--) ask("body", random.nextInt(8));
+        ask("count", 4);
+        any(new String[] {"act", "body", "0..3", "any"});
+    }
+
     private void any(String[] call) throws ReflectiveOperationException {
         if (call[0].equals("mend") || call[0].equals("of")) {
             number(call[0]);
@@ -138,7 +175,9 @@ public final class ModelTest {
     }
 
     private long within(int least, int most) {
-        if (random.nextInt(isTame ? 200 : 16) == 0) return FAR[random.nextInt(FAR.length)];
+        int way = random.nextInt(isTame ? 400 : 30);
+        if (way == 0) return FAR[random.nextInt(FAR.length)];
+        if (way == 1) return random.nextBoolean() ? least - 1 : most + 1;
         return least + random.nextInt(Math.max(1, most - least + 1));
     }
 
